@@ -51,10 +51,10 @@ public final class BagTree {
     private int tapeLength;
 
     private final Tokens tokens = new Tokens();
-    private final Parser parser = new Parser();
-    private final Reckoner reckoner = new Reckoner();
     private Plan plan = new Plan();
     private Plan sparePlan = new Plan();
+    private final Parser parser = new Parser(tokens, sparePlan);
+    private final Reckoner reckoner = new Reckoner();
 
     private Rows[] bags = newBags(TUPLE_LIMIT);
     private Rows[] nextBags = newBags(TUPLE_LIMIT);
@@ -124,7 +124,7 @@ public final class BagTree {
         }
         tokens.read(tape, tapeLength);
         tapeLength = 0;
-        int fault = parser.parse(tokens, sparePlan);
+        int fault = parser.parse(sparePlan);
         if (fault != 0) {
             return -2 - fault;
         }
@@ -500,7 +500,8 @@ public final class BagTree {
 
     /**
      * Rows of ints in order, no two with like keys: the keys of a row, behind them its amount. A bag
-     * has four keys and behind the amount a mark; a batch has a table's number ahead of the four.
+     * has four keys and behind the amount a mark; a batch has a table's number ahead of the four, and
+     * its amount stands where the mark of a bag does.
      */
     private static final class Rows {
         static final int TUPLE_KEYS = 4;
@@ -593,15 +594,11 @@ public final class BagTree {
             }
             int start = row * WIDTH;
             System.arraycopy(cells, start, cells, start + WIDTH, (length - row) * WIDTH);
-            writeRow(start, key, 0, n);
+            System.arraycopy(key, 0, cells, start, keys);
+            cells[start + MARK] = 0;
+            cells[start + keys] = n;
             length++;
             return true;
-        }
-
-        private void writeRow(int start, int[] from, int fromStart, int n) {
-            cells[start + WIDTH - 1] = 0;
-            System.arraycopy(from, fromStart, cells, start, keys);
-            cells[start + keys] = n;
         }
 
         private void removeRow(int row) {
@@ -615,7 +612,10 @@ public final class BagTree {
             if (length >= limit) {
                 return false;
             }
-            writeRow(length * WIDTH, other.cells, row * WIDTH, n);
+            int start = length * WIDTH;
+            System.arraycopy(other.cells, row * WIDTH, cells, start, keys);
+            cells[start + MARK] = 0;
+            cells[start + keys] = n;
             length++;
             return true;
         }
@@ -962,14 +962,19 @@ public final class BagTree {
 
         static final int BY_LIMIT = 3;
 
-        private Tokens tokens;
+        private final Tokens tokens;
         private Plan plan;
         private Line line;
         private int here;
 
+        Parser(Tokens tokens, Plan plan) {
+            this.tokens = tokens;
+            this.plan = plan;
+            this.line = plan.lines[0];
+        }
+
         /** 0, or 8 * place + kind of the first fault. */
-        int parse(Tokens text, Plan filled) {
-            tokens = text;
+        int parse(Plan filled) {
             plan = filled;
             plan.length = 0;
             plan.tables = 0;

@@ -665,6 +665,21 @@ public final class PromiseTest {
         dueText("distinct", bag(x, 10), "1,3:1 2,2:1 4,3:1");
         dueText("minus of itself", bag(x, 11), "");
 
+        BagTree w = Checks.planned("table a 2;view l = select a where c0 < c1;view g = select a where c0 > c1;"
+                + "view m = select a where c0 < 2;view h = select a where c0 > 2;view e = select a where c0 = 2;"
+                + "view n = select a where c0 = c0 and c1 = 3;");
+        change(w, 0, -1, -2, 1);
+        change(w, 0, 1, 2, 1);
+        change(w, 0, 2, 2, 1);
+        change(w, 0, 3, 3, 1);
+        w.commit();
+        dueText("< a column", bag(w, 1), "1,2:1");
+        dueText("> a column", bag(w, 2), "-1,-2:1");
+        dueText("< a number", bag(w, 3), "-1,-2:1 1,2:1");
+        dueText("> a number", bag(w, 4), "3,3:1");
+        dueText("= a number", bag(w, 5), "2,2:1");
+        dueText("two tests", bag(w, 6), "3,3:1");
+
         BagTree y = Checks.planned("table a 1;table b 1;view p = project a c0 + 1;view q = project a c0 - 9999;"
                 + "view m = minus a b;view n = project m 1;view j = join m b on c0 = c0;");
         change(y, 0, MOST_INT, 0, 1);
