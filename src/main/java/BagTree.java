@@ -50,10 +50,8 @@ public final class BagTree {
     private final byte[] tape = new byte[TAPE_LIMIT];
     private int tapeLength;
 
-    private final Tokens tokens = new Tokens();
+    private final Parser parser = new Parser();
     private Plan plan = new Plan();
-    private Plan sparePlan = new Plan();
-    private final Parser parser = new Parser(tokens, sparePlan);
     private final Reckoner reckoner = new Reckoner();
 
     private Rows[] bags = newBags(TUPLE_LIMIT);
@@ -122,15 +120,12 @@ public final class BagTree {
         if (tapeLength > PLAN_LIMIT) {
             return NONE;
         }
-        tokens.read(tape, tapeLength);
+        int fault = parser.parse(tape, tapeLength);
         tapeLength = 0;
-        int fault = parser.parse(sparePlan);
         if (fault != 0) {
             return -2 - fault;
         }
-        Plan old = plan;
-        plan = sparePlan;
-        sparePlan = old;
+        plan = parser.exchangePlan(plan);
         startAnew();
         return plan.length;
     }
@@ -949,7 +944,7 @@ public final class BagTree {
     }
 
     /**
-     * Reads tokens to a plan. Each reading method answers 0 or the kind of a fault; the fault is
+     * Reads a text to a plan of its own. Each reading method answers 0 or the kind of a fault; the fault is
      * always at the token that is looked at, so the kinds of one token are tried from the least on.
      */
     private static final class Parser {
@@ -962,20 +957,21 @@ public final class BagTree {
 
         static final int BY_LIMIT = 3;
 
-        private final Tokens tokens;
-        private Plan plan;
-        private Line line;
+        private final Tokens tokens = new Tokens();
+        private Plan plan = new Plan();
+        private Line line = plan.lines[0];
         private int here;
 
-        Parser(Tokens tokens, Plan plan) {
-            this.tokens = tokens;
-            this.plan = plan;
-            this.line = plan.lines[0];
+        /** The plan that was read, for one that is not needed any more. */
+        Plan exchangePlan(Plan old) {
+            Plan read = plan;
+            plan = old;
+            return read;
         }
 
         /** 0, or 8 * place + kind of the first fault. */
-        int parse(Plan filled) {
-            plan = filled;
+        int parse(byte[] text, int textLength) {
+            tokens.read(text, textLength);
             plan.length = 0;
             plan.tables = 0;
             here = 0;
