@@ -117,11 +117,13 @@ public final class BagTree {
     }
 
     public int plan() {
-        if (tapeLength > PLAN_LIMIT) {
+        int textLength = tapeLength;
+        // The tape is empty behind every plan(), whatever it answers.
+        tapeLength = 0;
+        if (textLength > PLAN_LIMIT) {
             return NONE;
         }
-        int fault = parser.parse(tape, tapeLength);
-        tapeLength = 0;
+        int fault = parser.parse(tape, textLength);
         if (fault != 0) {
             return -2 - fault;
         }

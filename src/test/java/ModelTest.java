@@ -275,7 +275,8 @@ public final class ModelTest {
     private void plan(String text) {
         Checks.feed(x, text);
         if (text.length() > 900) {
-            x.end(0);
+            due("plan of " + text.length() + " bytes", x.plan(), -1);
+            due("tape behind it", x.told(9), 0);
             return;
         }
         log.append(text).append('\n');

@@ -276,9 +276,25 @@ public final class PromiseTest {
         String blanks = " ".repeat(900);
         Checks.feed(x, blanks + " ");
         due("901 bytes", x.plan(), NONE);
-        due("still there", x.told(0), 1);
-        x.end(900);
+        due("the tape is empty behind 901", x.told(9), 0);
+        due("nothing to cut behind 901", x.end(1), NONE);
+        due("relations stay behind 901", x.told(0), 1);
+        due("views stay behind 901", x.told(1), 1);
+        dueText("view stays behind 901", bag(x, 1), "5:1");
+        due("moved stays behind 901", x.moved(1), 1);
+        due("batch stays behind 901", x.told(5), 1);
+        due("can be undone behind 901", x.told(4), 1);
+        due("done stays behind 901", x.told(2), 1);
+        due("feed behind 901", x.feed(0, 0, 0), 24);
+        for (int k = 2; k <= 39; k++) {
+            due("feed up to " + 24 * k, x.feed(0, 0, 0), 24 * k);
+        }
+        due("feed beyond 936", x.feed(0, 0, 0), NONE);
+        due("936 bytes", x.plan(), NONE);
+        due("the tape is empty behind 936", x.told(9), 0);
+        Checks.feed(x, blanks);
         due("900 bytes", x.plan(), 0);
+        due("the tape is empty behind 900", x.told(9), 0);
         due("no relation", x.size(0), NONE);
         due("no changes", x.told(5), 0);
         due("none undone", x.undo(), NONE);
