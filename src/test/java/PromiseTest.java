@@ -1,9 +1,5 @@
 /** Each promise of the document: ordinary inputs, the edges that it names, wrong inputs. */
-public final class PromiseTest {
-    private static final int NONE = BagTree.NONE;
-    private static final int LEAST_INT = Integer.MIN_VALUE;
-    private static final int MOST_INT = Integer.MAX_VALUE;
-
+public final class PromiseTest extends Checks {
     private PromiseTest() {
     }
 
@@ -31,63 +27,7 @@ public final class PromiseTest {
         column();
         told();
         wrongRelations();
-        Checks.finish("PromiseTest");
-    }
-
-    private static void due(String call, long got, long want) {
-        Checks.due(call, got, want);
-    }
-
-    private static void fault(String text, int place, int kind) {
-        due("plan of " + text, Checks.plan(new BagTree(), text), -2 - (8 * place + kind));
-    }
-
-    /** The fault is at the last place where the mark ! stands, which itself is no part of the text. */
-    private static void faultAt(String marked, int kind) {
-        int place = marked.lastIndexOf('!');
-        fault(marked.substring(0, place) + marked.substring(place + 1), place, kind);
-    }
-
-    private static void fine(String text, int relations) {
-        due("plan of " + text, Checks.plan(new BagTree(), text), relations);
-    }
-
-    private static void change(BagTree x, int table, int a, int b, int n) {
-        if (x.change(table, a, b, 77, -77, n) == NONE) {
-            due("change(" + table + ", " + a + ", " + b + ", .., " + n + ")", NONE, 0);
-        }
-    }
-
-    /** The tuples of a bag as a text: "1,2:1 1,3:-2". */
-    private static String bag(BagTree x, int relation) {
-        StringBuilder text = new StringBuilder();
-        for (int i = 0; i < x.size(relation); i++) {
-            text.append(i == 0 ? "" : " ");
-            for (int c = 0; c < x.of(relation, 1); c++) {
-                text.append(c == 0 ? "" : ",").append(x.at(relation, i, c));
-            }
-            text.append(":").append(x.at(relation, i, 4));
-        }
-        return text.toString();
-    }
-
-    private static String moves(BagTree x, int relation) {
-        StringBuilder text = new StringBuilder();
-        for (int i = 0; i < x.moved(relation); i++) {
-            text.append(i == 0 ? "" : " ");
-            for (int c = 0; c < x.of(relation, 1); c++) {
-                text.append(c == 0 ? "" : ",").append(x.movedAt(relation, i, c));
-            }
-            text.append(":").append(x.movedAt(relation, i, 4));
-        }
-        return text.toString();
-    }
-
-    private static void dueText(String call, String got, String want) {
-        if (!got.equals(want)) {
-            System.out.println(call + " has " + got + ", due is " + want);
-        }
-        due(call, got.equals(want) ? 1 : 0, 1);
+        finish("PromiseTest");
     }
 
     private static void newObject() {
@@ -206,17 +146,6 @@ public final class PromiseTest {
         fine("table a 1;view v = ring a with a on c0 = c0 keep c1;", 2);
     }
 
-    private static String lines(int tables, int views) {
-        StringBuilder text = new StringBuilder();
-        for (int k = 0; k < tables; k++) {
-            text.append("table t").append((char) ('a' + k)).append(" 1;");
-        }
-        for (int k = 0; k < views; k++) {
-            text.append("view v").append((char) ('a' + k)).append("=distinct ta;");
-        }
-        return text.toString();
-    }
-
     private static void planOfLimits() {
         fine(lines(16, 0), 16);
         fine(lines(1, 15), 16);
@@ -260,11 +189,11 @@ public final class PromiseTest {
     }
 
     private static void planKeepsAndClears() {
-        BagTree x = Checks.planned("table a 1;view v = distinct a;");
+        BagTree x = planned("table a 1;view v = distinct a;");
         change(x, 0, 5, 0, 2);
         x.commit();
         change(x, 0, 6, 0, 1);
-        due("a fault", Checks.plan(x, "table b 2;view"), -2 - (8 * 14 + 1));
+        due("a fault", plan(x, "table b 2;view"), -2 - (8 * 14 + 1));
         due("the tape is empty", x.told(9), 0);
         due("columns stay", x.of(0, 1), 1);
         due("its name stays", x.of(0, 7), 1);
@@ -274,7 +203,7 @@ public final class PromiseTest {
         due("can be undone", x.told(4), 1);
         due("done stays", x.told(2), 1);
         String blanks = " ".repeat(900);
-        Checks.feed(x, blanks + " ");
+        feed(x, blanks + " ");
         due("901 bytes", x.plan(), NONE);
         due("the tape is empty behind 901", x.told(9), 0);
         due("nothing to cut behind 901", x.end(1), NONE);
@@ -292,20 +221,20 @@ public final class PromiseTest {
         due("feed beyond 936", x.feed(0, 0, 0), NONE);
         due("936 bytes", x.plan(), NONE);
         due("the tape is empty behind 936", x.told(9), 0);
-        Checks.feed(x, blanks);
+        feed(x, blanks);
         due("900 bytes", x.plan(), 0);
         due("the tape is empty behind 900", x.told(9), 0);
         due("no relation", x.size(0), NONE);
         due("no changes", x.told(5), 0);
         due("none undone", x.undo(), NONE);
 
-        BagTree y = Checks.planned("table a 1;view v = distinct a;");
+        BagTree y = planned("table a 1;view v = distinct a;");
         change(y, 0, 5, 0, 2);
         y.commit();
         change(y, 0, 5, 0, -3);
         y.commit();
         change(y, 0, 6, 0, 1);
-        due("a new plan", Checks.plan(y, "table a 1;view v = distinct a;"), 2);
+        due("a new plan", plan(y, "table a 1;view v = distinct a;"), 2);
         for (int what = 2; what <= 9; what++) {
             due("told(" + what + ") of a new plan", y.told(what), 0);
         }
@@ -317,7 +246,7 @@ public final class PromiseTest {
     }
 
     private static void change() {
-        BagTree x = Checks.planned("table a 1;table b 4;view v = distinct a;");
+        BagTree x = planned("table a 1;table b 4;view v = distinct a;");
         due("n is 0", x.change(0, 1, 0, 0, 0, 0), NONE);
         due("n is 10", x.change(0, 1, 0, 0, 0, 10), NONE);
         due("n is -10", x.change(0, 1, 0, 0, 0, -10), NONE);
@@ -343,7 +272,7 @@ public final class PromiseTest {
     }
 
     private static void pendingAndCancel() {
-        BagTree x = Checks.planned("table a 2;table b 1;");
+        BagTree x = planned("table a 2;table b 1;");
         x.change(1, 3, 0, 0, 0, 4);
         x.change(0, 5, -1, 0, 0, 1);
         x.change(0, -5, 9, 0, 0, -2);
@@ -360,14 +289,14 @@ public final class PromiseTest {
         due("pending(3, 0)", x.pending(3, 0), 1);
         due("pending(3, 1)", x.pending(3, 1), 3);
         due("pending(3, 5)", x.pending(3, 5), 4);
-        Checks.dueNoSuch("pending(3, 2)", () -> x.pending(3, 2));
-        Checks.dueNoSuch("pending(0, 3)", () -> x.pending(0, 3));
-        Checks.dueNoSuch("pending(0, 4)", () -> x.pending(0, 4));
-        Checks.dueNoSuch("pending(0, 6)", () -> x.pending(0, 6));
-        Checks.dueNoSuch("pending(0, -1)", () -> x.pending(0, -1));
-        Checks.dueNoSuch("pending(4, 0)", () -> x.pending(4, 0));
-        Checks.dueNoSuch("pending(-2, 0)", () -> x.pending(-2, 0));
-        Checks.dueNoSuch("pending(most, least)", () -> x.pending(MOST_INT, LEAST_INT));
+        dueNoSuch("pending(3, 2)", () -> x.pending(3, 2));
+        dueNoSuch("pending(0, 3)", () -> x.pending(0, 3));
+        dueNoSuch("pending(0, 4)", () -> x.pending(0, 4));
+        dueNoSuch("pending(0, 6)", () -> x.pending(0, 6));
+        dueNoSuch("pending(0, -1)", () -> x.pending(0, -1));
+        dueNoSuch("pending(4, 0)", () -> x.pending(4, 0));
+        dueNoSuch("pending(-2, 0)", () -> x.pending(-2, 0));
+        dueNoSuch("pending(most, least)", () -> x.pending(MOST_INT, LEAST_INT));
         due("cancel()", x.cancel(), 4);
         due("cancel() again", x.cancel(), 0);
         due("commit() of none", x.commit(), 0);
@@ -375,7 +304,7 @@ public final class PromiseTest {
     }
 
     private static void commit() {
-        BagTree x = Checks.planned("table a 1;view v = distinct a;view w = project v c0;");
+        BagTree x = planned("table a 1;view v = distinct a;view w = project v c0;");
         change(x, 0, 1, 0, 3);
         change(x, 0, 2, 0, 1);
         due("commit", x.commit(), 4);
@@ -396,17 +325,8 @@ public final class PromiseTest {
         due("below 0 of none", x.commit(), -2);
     }
 
-    private static void fill(BagTree x, int table, int from, int to) {
-        for (int k = from; k < to; k++) {
-            change(x, table, k, 0, 1);
-            if (x.told(5) == 40) {
-                due("a part of the filling is done", x.commit() >= 0 ? 1 : 0, 1);
-            }
-        }
-    }
-
     private static void refusedOrder() {
-        BagTree x = Checks.planned("table a 1;table b 1;");
+        BagTree x = planned("table a 1;table b 1;");
         fill(x, 0, 0, 120);
         due("120 tuples", x.size(0), 120);
         change(x, 0, 500, 0, 1);
@@ -420,7 +340,7 @@ public final class PromiseTest {
         change(x, 1, 1, 0, -1);
         due("below 0 is first of all", x.commit(), -2);
 
-        BagTree y = Checks.planned("table a 1;table b 1;view u = union a b;view m = minus a b;");
+        BagTree y = planned("table a 1;table b 1;view u = union a b;view m = minus a b;");
         fill(y, 0, 0, 80);
         fill(y, 1, 40, 120);
         y.commit();
@@ -438,7 +358,7 @@ public final class PromiseTest {
         String union = "view u = union d e;";
         String tables = "table a 1;table b 2;table d 1;table e 1;";
         for (int k = 0; k < 2; k++) {
-            BagTree z = Checks.planned(tables + (k == 0 ? ring + union : union + ring));
+            BagTree z = planned(tables + (k == 0 ? ring + union : union + ring));
             fill(z, 2, 0, 80);
             fill(z, 3, 100, 140);
             z.commit();
@@ -459,7 +379,7 @@ public final class PromiseTest {
 
     /** 256 * 256 * 65536 is 0: pairs without tuples, whose number alone is refused. */
     private static void joinPairs() {
-        BagTree x = Checks.planned("table t 2;view p = join t t on c0=c0,c1=c1;view q = join p p on c0=c0,c1=c1;"
+        BagTree x = planned("table t 2;view p = join t t on c0=c0,c1=c1;view q = join p p on c0=c0,c1=c1;"
                 + "view s = join q q on c0=c0,c1=c1;view j = join s s on c0=c0;");
         for (int k = 0; k < 38; k++) {
             x.change(0, 7, k, 0, 0, 8);
@@ -471,7 +391,7 @@ public final class PromiseTest {
         due("65536 * 65536 is none", x.size(3), 0);
         due("none of none", x.size(4), 0);
 
-        BagTree y = Checks.planned("table t 2;view p = join t t on c0=c0,c1=c1;view q = join p p on c0=c0,c1=c1;"
+        BagTree y = planned("table t 2;view p = join t t on c0=c0,c1=c1;view q = join p p on c0=c0,c1=c1;"
                 + "view j = join q q on c0=c0;");
         for (int k = 0; k < 38; k++) {
             y.change(0, 7, k, 0, 0, 8);
@@ -509,7 +429,7 @@ public final class PromiseTest {
     }
 
     private static void ringRefused() {
-        BagTree x = Checks.planned("table a 1;table b 2;view r = ring a with b on c0 = c0 keep c2;");
+        BagTree x = planned("table a 1;table b 2;view r = ring a with b on c0 = c0 keep c2;");
         for (int k = 0; k < 40; k++) {
             change(x, 1, k, k + 1, 1);
         }
@@ -530,7 +450,7 @@ public final class PromiseTest {
         due("39 rounds", x.rounds(2), 39);
 
         // 3 a round: 120 tuples with round 39, 123 with round 40
-        BagTree y = Checks.planned("table a 2;table b 1;view r = ring a with b on c0 = c0 keep c0, c1 + 3;");
+        BagTree y = planned("table a 2;table b 1;view r = ring a with b on c0 = c0 keep c0, c1 + 3;");
         change(y, 1, 1, 0, 1);
         for (int k = 0; k < 3; k++) {
             change(y, 0, 1, k, 1);
@@ -543,7 +463,7 @@ public final class PromiseTest {
         due("too many rounds", y.commit(), -4);
 
         // 120 tuples with round 40: the next one is of a 41st round and a 121st at once
-        BagTree z = Checks.planned("table a 1;table b 2;view r = ring a with b on c0 = c0 keep c2;");
+        BagTree z = planned("table a 1;table b 2;view r = ring a with b on c0 = c0 keep c2;");
         for (int k = 0; k < 40; k++) {
             change(z, 1, k, k + 1, 1);
         }
@@ -566,7 +486,7 @@ public final class PromiseTest {
     }
 
     private static void would() {
-        BagTree x = Checks.planned("table a 1;view v = distinct a;");
+        BagTree x = planned("table a 1;view v = distinct a;");
         due("would of nothing", x.would(1), 0);
         change(x, 0, 1, 0, 1);
         change(x, 0, 2, 0, 1);
@@ -584,7 +504,7 @@ public final class PromiseTest {
     }
 
     private static void undo() {
-        BagTree x = Checks.planned("table a 1;view v = project a c0 + 1;");
+        BagTree x = planned("table a 1;view v = project a c0 + 1;");
         for (int k = 0; k < 10; k++) {
             change(x, 0, k, 0, 1);
             x.commit();
@@ -611,7 +531,7 @@ public final class PromiseTest {
         due("undo of an empty one", x.undo(), 0);
         due("nothing moved", x.told(7), 0);
 
-        BagTree y = Checks.planned("table a 1;");
+        BagTree y = planned("table a 1;");
         fill(y, 0, 0, 120);
         for (int k = 0; k < 20; k++) {
             change(y, 0, 100 + k, 0, -1);
@@ -625,7 +545,7 @@ public final class PromiseTest {
     }
 
     private static void sizeAtCountTotal() {
-        BagTree x = Checks.planned("table a 2;view m = minus a a;view n = project a 3;");
+        BagTree x = planned("table a 2;view m = minus a a;view n = project a 3;");
         x.change(0, 5, LEAST_INT, 0, 0, 2);
         x.change(0, 5, MOST_INT, 0, 0, 3);
         x.change(0, LEAST_INT, 0, 0, 0, 4);
@@ -640,23 +560,23 @@ public final class PromiseTest {
         due("count of one column", x.count(2, 3, 8, 8, 8), 9);
         due("total", x.total(0), 9);
         due("total of none", x.total(1), 0);
-        Checks.dueNoSuch("at(0, 3, 0)", () -> x.at(0, 3, 0));
-        Checks.dueNoSuch("at(0, -1, 0)", () -> x.at(0, -1, 0));
-        Checks.dueNoSuch("at(0, 0, 2)", () -> x.at(0, 0, 2));
-        Checks.dueNoSuch("at(0, 0, 3)", () -> x.at(0, 0, 3));
-        Checks.dueNoSuch("at(0, 0, 5)", () -> x.at(0, 0, 5));
-        Checks.dueNoSuch("at(0, 0, -1)", () -> x.at(0, 0, -1));
-        Checks.dueNoSuch("at(1, 0, 4)", () -> x.at(1, 0, 4));
-        Checks.dueNoSuch("at(3, 0, 0)", () -> x.at(3, 0, 0));
-        Checks.dueNoSuch("at(0, most, 0)", () -> x.at(0, MOST_INT, 0));
-        Checks.dueNoSuch("count(3, ..)", () -> x.count(3, 0, 0, 0, 0));
-        Checks.dueNoSuch("count(-1, ..)", () -> x.count(-1, 0, 0, 0, 0));
-        Checks.dueNoSuch("total(3)", () -> x.total(3));
-        Checks.dueNoSuch("total(-1)", () -> x.total(-1));
+        dueNoSuch("at(0, 3, 0)", () -> x.at(0, 3, 0));
+        dueNoSuch("at(0, -1, 0)", () -> x.at(0, -1, 0));
+        dueNoSuch("at(0, 0, 2)", () -> x.at(0, 0, 2));
+        dueNoSuch("at(0, 0, 3)", () -> x.at(0, 0, 3));
+        dueNoSuch("at(0, 0, 5)", () -> x.at(0, 0, 5));
+        dueNoSuch("at(0, 0, -1)", () -> x.at(0, 0, -1));
+        dueNoSuch("at(1, 0, 4)", () -> x.at(1, 0, 4));
+        dueNoSuch("at(3, 0, 0)", () -> x.at(3, 0, 0));
+        dueNoSuch("at(0, most, 0)", () -> x.at(0, MOST_INT, 0));
+        dueNoSuch("count(3, ..)", () -> x.count(3, 0, 0, 0, 0));
+        dueNoSuch("count(-1, ..)", () -> x.count(-1, 0, 0, 0, 0));
+        dueNoSuch("total(3)", () -> x.total(3));
+        dueNoSuch("total(-1)", () -> x.total(-1));
     }
 
     private static void kindsOfViews() {
-        BagTree x = Checks.planned("table a 2;table b 2;"
+        BagTree x = planned("table a 2;table b 2;"
                 + "view s = select a where c0 < c1 and c1 > 2;view e = select a where c0 = c1;"
                 + "view p = project a c1 - 1, 7, c0 + 2;view q = project a 0;"
                 + "view j = join a b on c1 = c0;view k = join a b on c0 = c1, c1 = c0;"
@@ -681,7 +601,7 @@ public final class PromiseTest {
         dueText("distinct", bag(x, 10), "1,3:1 2,2:1 4,3:1");
         dueText("minus of itself", bag(x, 11), "");
 
-        BagTree w = Checks.planned("table a 2;view l = select a where c0 < c1;view g = select a where c0 > c1;"
+        BagTree w = planned("table a 2;view l = select a where c0 < c1;view g = select a where c0 > c1;"
                 + "view m = select a where c0 < 2;view h = select a where c0 > 2;view e = select a where c0 = 2;"
                 + "view n = select a where c0 = c0 and c1 = 3;");
         change(w, 0, -1, -2, 1);
@@ -696,7 +616,7 @@ public final class PromiseTest {
         dueText("= a number", bag(w, 5), "2,2:1");
         dueText("two tests", bag(w, 6), "3,3:1");
 
-        BagTree y = Checks.planned("table a 1;table b 1;view p = project a c0 + 1;view q = project a c0 - 9999;"
+        BagTree y = planned("table a 1;table b 1;view p = project a c0 + 1;view q = project a c0 - 9999;"
                 + "view m = minus a b;view n = project m 1;view j = join m b on c0 = c0;");
         change(y, 0, MOST_INT, 0, 1);
         change(y, 0, LEAST_INT, 0, 1);
@@ -709,7 +629,7 @@ public final class PromiseTest {
     }
 
     private static void groups() {
-        BagTree x = Checks.planned("table a 3;table b 3;view m = minus a b;"
+        BagTree x = planned("table a 3;table b 3;view m = minus a b;"
                 + "view n = group m by c0 count;view s = group m by c0 sum c2;view l = group m by c0 least c2;"
                 + "view h = group m by c0 most c2;view t = group m by c1, c0 count;view r = group m by c0 sum c0;");
         x.change(0, 1, 1, 5, 0, 2);
@@ -730,7 +650,7 @@ public final class PromiseTest {
         x.commit();
         dueText("a group of none is none", bag(x, 3), "1,-1:1 3,0:1");
 
-        BagTree y = Checks.planned("table a 2;view s = group a by c0 sum c1;view l = group a by c0 least c1;view h = group a by c0 most c1;");
+        BagTree y = planned("table a 2;view s = group a by c0 sum c1;view l = group a by c0 least c1;view h = group a by c0 most c1;");
         change(y, 0, 1, MOST_INT, 2);
         change(y, 0, 2, LEAST_INT, 1);
         change(y, 0, 2, MOST_INT, 1);
@@ -741,7 +661,7 @@ public final class PromiseTest {
     }
 
     private static void movedAndCame() {
-        BagTree x = Checks.planned("table a 2;table b 2;view u = union a b;view j = join a a on c0 = c0;view d = distinct u;");
+        BagTree x = planned("table a 2;table b 2;view u = union a b;view j = join a a on c0 = c0;view d = distinct u;");
         change(x, 0, 1, 2, 2);
         change(x, 1, 3, 4, 1);
         change(x, 1, 1, 2, 1);
@@ -769,13 +689,13 @@ public final class PromiseTest {
         due("came(5)", x.came(5), NONE);
         due("came(-1)", x.came(-1), NONE);
         due("came to a table", x.came(0), NONE);
-        Checks.dueNoSuch("movedAt(2, 3, 0)", () -> x.movedAt(2, 3, 0));
-        Checks.dueNoSuch("movedAt(2, -1, 0)", () -> x.movedAt(2, -1, 0));
-        Checks.dueNoSuch("movedAt(2, 0, 2)", () -> x.movedAt(2, 0, 2));
-        Checks.dueNoSuch("movedAt(2, 0, 5)", () -> x.movedAt(2, 0, 5));
-        Checks.dueNoSuch("movedAt(2, 0, -1)", () -> x.movedAt(2, 0, -1));
-        Checks.dueNoSuch("movedAt(5, 0, 0)", () -> x.movedAt(5, 0, 0));
-        Checks.dueNoSuch("movedAt(-1, 0, 0)", () -> x.movedAt(-1, 0, 0));
+        dueNoSuch("movedAt(2, 3, 0)", () -> x.movedAt(2, 3, 0));
+        dueNoSuch("movedAt(2, -1, 0)", () -> x.movedAt(2, -1, 0));
+        dueNoSuch("movedAt(2, 0, 2)", () -> x.movedAt(2, 0, 2));
+        dueNoSuch("movedAt(2, 0, 5)", () -> x.movedAt(2, 0, 5));
+        dueNoSuch("movedAt(2, 0, -1)", () -> x.movedAt(2, 0, -1));
+        dueNoSuch("movedAt(5, 0, 0)", () -> x.movedAt(5, 0, 0));
+        dueNoSuch("movedAt(-1, 0, 0)", () -> x.movedAt(-1, 0, 0));
         x.commit();
         due("an empty batch moves nothing", x.moved(2), 0);
 
@@ -784,7 +704,7 @@ public final class PromiseTest {
 
     /** One change of b moves every tuple of a view of 120 to another. */
     private static void movedOf240() {
-        BagTree x = Checks.planned("table a 1;table b 2;view n = project a c0, 0;view j = join n b on c1 = c0;");
+        BagTree x = planned("table a 1;table b 2;view n = project a c0, 0;view j = join n b on c1 = c0;");
         fill(x, 0, 0, 120);
         change(x, 1, 0, 5, 1);
         x.commit();
@@ -802,7 +722,7 @@ public final class PromiseTest {
     }
 
     private static void rings() {
-        BagTree x = Checks.planned("table e 2;table f 2;view m = minus e f;view r = ring m with m on c1 = c0 keep c0, c3;"
+        BagTree x = planned("table e 2;table f 2;view m = minus e f;view r = ring m with m on c1 = c0 keep c0, c3;"
                 + "view w = ring e with f on c0 = c1 keep c2 + 1, 7;");
         change(x, 0, 1, 2, 5);
         change(x, 0, 2, 3, 1);
@@ -836,13 +756,13 @@ public final class PromiseTest {
         x.commit();
         dueText("ways without it", bag(x, 3), "1,2:1 1,3:1 2,3:1");
         due("rounds without it", x.rounds(3), 1);
-        BagTree y = Checks.planned("table e 2;view r = ring e with e on c1 = c0 keep c0, c3;");
+        BagTree y = planned("table e 2;view r = ring e with e on c1 = c0 keep c0, c3;");
         due("rounds of nothing", y.rounds(1), 0);
         due("round of nothing", y.round(1, 0, 0, 0, 0), NONE);
     }
 
     private static void differs() {
-        BagTree x = Checks.planned("table a 2;view d = distinct a;view r = ring a with d on c1 = c0 keep c0, c3;view g = group r by c0 count;");
+        BagTree x = planned("table a 2;view d = distinct a;view r = ring a with d on c1 = c0 keep c0, c3;view g = group r by c0 count;");
         change(x, 0, 1, 2, 1);
         change(x, 0, 2, 3, 1);
         x.commit();
@@ -858,7 +778,7 @@ public final class PromiseTest {
     }
 
     private static void of() {
-        BagTree x = Checks.planned("table ab 3;table z 1;view s = select ab where c0 = 1;view pqrstuvw = project s c0;"
+        BagTree x = planned("table ab 3;table z 1;view s = select ab where c0 = 1;view pqrstuvw = project s c0;"
                 + "view j = join pqrstuvw z on c0 = c0;view u = union z j;view m = minus u u;view d = distinct z;"
                 + "view g = group ab by c0, c1 most c2;view r = ring j with z on c0 = c0 keep c1;");
         int[][] want = {
@@ -886,10 +806,10 @@ public final class PromiseTest {
     }
 
     private static void column() {
-        BagTree x = Checks.planned("table a 2;view d = distinct a;");
+        BagTree x = planned("table a 2;view d = distinct a;");
         due("unlike ones of none", x.column(0, 1, 2), 0);
-        Checks.dueNoSuch("column(0, 0, 0) of none", () -> x.column(0, 0, 0));
-        Checks.dueNoSuch("column(1, 1, 1) of none", () -> x.column(1, 1, 1));
+        dueNoSuch("column(0, 0, 0) of none", () -> x.column(0, 0, 0));
+        dueNoSuch("column(1, 1, 1) of none", () -> x.column(1, 1, 1));
         change(x, 0, 1, 9, 1);
         change(x, 0, 1, -9, 4);
         change(x, 0, 2, 9, 1);
@@ -901,16 +821,16 @@ public final class PromiseTest {
         due("least c1", x.column(1, 1, 0), LEAST_INT);
         due("greatest c1", x.column(1, 1, 1), 9);
         due("unlike c1", x.column(1, 1, 2), 3);
-        Checks.dueNoSuch("column(1, 2, 2)", () -> x.column(1, 2, 2));
-        Checks.dueNoSuch("column(1, -1, 2)", () -> x.column(1, -1, 2));
-        Checks.dueNoSuch("column(1, 0, 3)", () -> x.column(1, 0, 3));
-        Checks.dueNoSuch("column(1, 0, -1)", () -> x.column(1, 0, -1));
-        Checks.dueNoSuch("column(2, 0, 0)", () -> x.column(2, 0, 0));
-        Checks.dueNoSuch("column(-1, 0, 0)", () -> x.column(-1, 0, 0));
+        dueNoSuch("column(1, 2, 2)", () -> x.column(1, 2, 2));
+        dueNoSuch("column(1, -1, 2)", () -> x.column(1, -1, 2));
+        dueNoSuch("column(1, 0, 3)", () -> x.column(1, 0, 3));
+        dueNoSuch("column(1, 0, -1)", () -> x.column(1, 0, -1));
+        dueNoSuch("column(2, 0, 0)", () -> x.column(2, 0, 0));
+        dueNoSuch("column(-1, 0, 0)", () -> x.column(-1, 0, 0));
     }
 
     private static void told() {
-        BagTree x = Checks.planned("table a 1;table b 1;view u = union a b;view j = join a a on c0 = c0;view d = distinct u;");
+        BagTree x = planned("table a 1;table b 1;view u = union a b;view j = join a a on c0 = c0;view d = distinct u;");
         change(x, 0, 1, 0, 1);
         change(x, 1, 2, 0, 1);
         x.commit();
@@ -936,7 +856,7 @@ public final class PromiseTest {
     }
 
     private static void wrongRelations() {
-        BagTree x = Checks.planned(lines(8, 8));
+        BagTree x = planned(lines(8, 8));
         int[] wrong = {16, 17, 1000, MOST_INT, -1, -2, LEAST_INT};
         for (int r : wrong) {
             due("would", x.would(r), NONE);
@@ -948,11 +868,11 @@ public final class PromiseTest {
             due("differs", x.differs(r), NONE);
             due("of", x.of(r, 1), NONE);
             due("change", x.change(r, 0, 0, 0, 0, 1), NONE);
-            Checks.dueNoSuch("at", () -> x.at(r, 0, 0));
-            Checks.dueNoSuch("count", () -> x.count(r, 0, 0, 0, 0));
-            Checks.dueNoSuch("total", () -> x.total(r));
-            Checks.dueNoSuch("movedAt", () -> x.movedAt(r, 0, 0));
-            Checks.dueNoSuch("column", () -> x.column(r, 0, 2));
+            dueNoSuch("at", () -> x.at(r, 0, 0));
+            dueNoSuch("count", () -> x.count(r, 0, 0, 0, 0));
+            dueNoSuch("total", () -> x.total(r));
+            dueNoSuch("movedAt", () -> x.movedAt(r, 0, 0));
+            dueNoSuch("column", () -> x.column(r, 0, 2));
         }
         due("change of a view", x.change(8, 0, 0, 0, 0, 1), NONE);
         due("NONE", NONE, -1);
