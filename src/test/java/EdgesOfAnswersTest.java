@@ -584,6 +584,17 @@ public final class EdgesOfAnswersTest extends Checks {
         due("refused", y.rounds(2), 40);
     }
 
+    /** The same: where the tuples of the last round are ahead of all others in order */
+    static void promise19TheLeastLast() {
+        BagTree x = planned("table a 1;table b 2;view r = ring a with b on c0 = c0 keep c2;");
+        change(x, 0, 9, 0, 1);
+        change(x, 1, 9, 8, 1);
+        change(x, 1, 8, 7, 1);
+        x.commit();
+        dueText("ring", bag(x, 2), "7:1 8:1 9:1");
+        due("rounds", x.rounds(2), 2);
+    }
+
     /** "NONE: .. no ring" */
     static void promise19NoRing() {
         BagTree x = planned(ALL_KINDS);
@@ -636,6 +647,23 @@ public final class EdgesOfAnswersTest extends Checks {
         for (int r = 0; r < relations; r++) {
             due("differs(" + r + ")", x.differs(r), 0);
         }
+    }
+
+    /** The same: behind any other call that asks */
+    static void promise20BehindOtherQuestions() {
+        BagTree x = walkOfForty();
+        for (int r = 0; r < 4; r++) {
+            x.column(r, 0, 2);
+            due("behind column", x.differs(r), 0);
+            x.would(r);
+            due("behind would", x.differs(r), 0);
+            x.count(r, 1, 1, 1, 1);
+            x.round(2, 1, 1, 1, 1);
+            due("behind count and round", x.differs(r), 0);
+        }
+        change(x, 0, 5, 0, -1);
+        x.would(2);
+        due("behind a would that is refused", x.differs(2), 0);
     }
 
     /** Asking changes nothing: not the batch, what moved, the rounds or what can be undone. */

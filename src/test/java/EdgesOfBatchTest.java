@@ -586,6 +586,19 @@ public final class EdgesOfBatchTest extends Checks {
         due("rounds", x.rounds(2), 40);
     }
 
+    /** The same: where the one of the 41st comes ahead of all others in order */
+    static void promise8ARingOf41RoundsTheLeastLast() {
+        BagTree x = walkOf(40);
+        change(x, 1, 40, -5, 1);
+        change(x, 0, 0, 0, 1);
+        due("41", x.would(0), -4);
+        due("41", x.commit(), -4);
+        change(x, 1, 39, -5, 1);
+        change(x, 0, 0, 0, 1);
+        due("40", x.commit(), 42);
+        due("round", x.round(2, -5, 0, 0, 0), 40);
+    }
+
     /** A ring without an end is refused, however far it would go. */
     static void promise8ARingWithoutAnEnd() {
         BagTree x = planned("table a 1;table b 1;view n = project a c0, 0;view e = project b 0;"
@@ -832,6 +845,92 @@ public final class EdgesOfBatchTest extends Checks {
     }
 
     // ---- promise 8: edges of the kinds of views
+
+    /** "the TUPLE of a and of b's COLUMNS that are not told there, counts times each other": none, one, all but one of b's */
+    static void promise8ColumnsOfAJoin() {
+        BagTree x = planned("table a 1;table b 2;table d 3;view j = join a d on c0 = c1;view k = join d a on c1 = c0;"
+                + "view l = join b b on c0 = c1, c1 = c0;view m = join b d on c1 = c2, c0 = c0;view n = join a b on c0 = c0;");
+        x.change(0, 5, 0, 0, 0, 2);
+        x.change(1, 5, 6, 0, 0, 3);
+        x.change(1, 6, 5, 0, 0, 1);
+        x.change(2, 4, 5, 9, 0, 2);
+        x.change(2, 5, 7, 6, 0, 4);
+        x.change(2, 5, 5, 5, 0, 1);
+        x.commit();
+        dueText("a column, then the first and the last", bag(x, 3), "5,4,9:4 5,5,5:2");
+        dueText("all of the first", bag(x, 4), "4,5,9:4 5,5,5:2");
+        dueText("none of the second", bag(x, 5), "5,6:3 6,5:3");
+        dueText("the middle one", bag(x, 6), "5,6,7:12");
+        dueText("the second one", bag(x, 7), "5,6:6");
+    }
+
+    /** "for which these are alike": all pairs, four of them */
+    static void promise8FourPairsOfAJoin() {
+        BagTree x = planned("table e 4;table f 4;view j = join e f on c0 = c3, c1 = c2, c2 = c1, c3 = c0;");
+        x.change(0, 1, 2, 3, 4, 1);
+        x.change(1, 4, 3, 2, 1, 5);
+        x.change(1, 4, 3, 2, 0, 1);
+        x.change(1, 4, 3, 0, 1, 1);
+        x.change(1, 4, 0, 2, 1, 1);
+        x.change(1, 0, 3, 2, 1, 1);
+        x.commit();
+        dueText("join", bag(x, 2), "1,2,3,4:5");
+    }
+
+    /** What is gone from an R is in no view any more, and full tables have no tuple beyond the last. */
+    static void promise8WhatIsGoneIsGone() {
+        BagTree x = planned("table a 1;table b 1;view j = join a b on c0 = c0;view u = union a b;view g = group a by c0 count;"
+                + "view r = ring a with b on c0 = c0 keep c0;");
+        for (int k = 0; k < 3; k++) {
+            fill(x, 0, 0, 5);
+            fill(x, 1, 0, 5);
+            x.commit();
+            change(x, 0, 4, 0, -1);
+            change(x, 1, 0, 0, -1);
+            change(x, 1, 4, 0, -1);
+            x.commit();
+            dueText("join", bag(x, 2), "1:1 2:1 3:1");
+            dueText("union", bag(x, 3), "0:1 1:2 2:2 3:2");
+            dueText("group", bag(x, 4), "0,1:1 1,1:1 2,1:1 3,1:1");
+            for (int i = 0; i < 4; i++) {
+                change(x, 0, i, 0, -1);
+            }
+            for (int i = 1; i < 4; i++) {
+                change(x, 1, i, 0, -1);
+            }
+            x.commit();
+            due("tuples", x.told(6), 0);
+        }
+        fill(x, 0, 0, 120);
+        fill(x, 1, 0, 120);
+        due("join", x.size(2), 120);
+        due("union", x.size(3), 120);
+        due("ring", x.size(5), 120);
+    }
+
+    /** Sixteen tables and no view, changes in the first and the last. */
+    static void promise8SixteenTables() {
+        BagTree x = planned(lines(16, 0));
+        change(x, 0, 1, 0, 1);
+        change(x, 15, 2, 0, 3);
+        due("would", x.would(15), 1);
+        due("commit", x.commit(), 0);
+        dueText("the first", bag(x, 0), "1:1");
+        dueText("the last", bag(x, 15), "2:3");
+        due("undo", x.undo(), 0);
+        due("the last", x.size(15), 0);
+    }
+
+    /** "count: counts together": of one, of some, of some below 0; by three columns in the order in which they are told */
+    static void promise8CountsOfAGroup() {
+        BagTree x = planned("table a 4;table b 4;view m = minus a b;view n = group m by c3 count;view o = group m by c2,c0,c1 count;");
+        x.change(0, 1, 2, 3, 4, 5);
+        x.change(0, 1, 2, 3, 5, 1);
+        x.change(1, 2, 2, 3, 4, 7);
+        x.commit();
+        dueText("by one", bag(x, 3), "4,-2:1 5,1:1");
+        dueText("by three", bag(x, 4), "3,1,2,6:1 3,2,2,-7:1");
+    }
 
     /** "counts together": those of 0 are none */
     static void promise8CountsTogetherOfZero() {

@@ -357,6 +357,59 @@ public final class EdgesOfTextTest extends Checks {
         due("commit", x.commit(), 0);
     }
 
+    /** Nothing of a plan ahead is left in a line that tells something else now: each kind behind each other. */
+    static void promise4LinesOfPlansAhead() {
+        String[] views = {
+            "select a where c0 > 1 and c1 < c0", "project a c1 + 1, 7, c0", "join a b on c0 = c1, c1 = c0", "union a b",
+            "minus a b", "distinct a", "group a by c1, c0 most c1", "ring a with b on c1 = c0 keep c0, c3",
+            "group a by c0 count", "project b 3", "select b where c0 = 2",
+        };
+        String[] bags = {"3,1:1", "2,7,3:1 4,7,2:2", "2,3:4", "2,3:2 3,1:1 3,2:2 5,5:1", "2,3:2 3,1:1 3,2:-2 5,5:-1", "2,3:1 3,1:1",
+            "1,3,1:1 3,2,3:1", "2,2:1 2,3:1 3,1:1", "2,2:1 3,1:1", "3:3", ""};
+        int[] columns = {2, 3, 2, 2, 2, 2, 3, 2, 2, 1, 2};
+        int[] hangsOn = {1, 1, 3, 3, 3, 1, 1, 3, 1, 2, 2};
+        for (int one = 0; one < views.length; one++) {
+            BagTree x = new BagTree();
+            for (int k = 0; k < 4; k++) {
+                int other = k % 2 == 0 ? (one + k / 2) % views.length : (one + 3 + k) % views.length;
+                due("plan", plan(x, "table a 2;table b 2;view v = " + views[other] + ";"), 3);
+                plan(x, "table a 2;view w = " + views[one].replace(" b ", " a ") + ";view v = distinct w; table");
+                change(x, 0, 2, 3, 2);
+                change(x, 0, 3, 1, 1);
+                change(x, 1, 3, 2, 2);
+                change(x, 1, 5, 5, 1);
+                x.commit();
+                dueText(views[other], bag(x, 2), bags[other]);
+                due("columns", x.of(2, 1), columns[other]);
+                due("tables", x.told(0), 2);
+                due("hangs on", x.of(2, 4), hangsOn[other]);
+                due("how far", x.of(2, 6), 1);
+            }
+        }
+    }
+
+    /** A line that told a view ahead tells a table now, and the other way. */
+    static void promise4TablesWhereViewsWere() {
+        BagTree x = new BagTree();
+        for (int k = 0; k < 3; k++) {
+            due("views", plan(x, "table a 1;view b = distinct a;view d = minus b a;view e = union d d;"), 4);
+            due("tables", x.told(0), 1);
+            due("kind", x.of(1, 0), 6);
+            due("far", x.of(3, 6), 3);
+            due("tables", plan(x, "table a 1;table b 1;table d 1;table e 1;"), 4);
+            due("tables", x.told(0), 4);
+            for (int r = 0; r < 4; r++) {
+                due("kind", x.of(r, 0), 0);
+                due("R", x.of(r, 2), NONE);
+                due("second R", x.of(r, 3), NONE);
+                due("hangs on", x.of(r, 4), 0);
+                due("on it", x.of(r, 5), 0);
+                due("far", x.of(r, 6), 0);
+            }
+            due("a change", x.change(3, 1, 0, 0, 0, 1), 1);
+        }
+    }
+
     /** A relation that the new PLAN has not is none, though the one ahead had it. */
     static void promise4FewerRelations() {
         BagTree x = planned(lines(4, 4));
@@ -389,12 +442,40 @@ public final class EdgesOfTextTest extends Checks {
 
     /** Blanks are 32 and 10: any other byte that is no sign of a token is no TOKEN. */
     static void promise4OtherBytesAreNoToken() {
-        for (char sign : new char[] {0, 9, 11, 13, 31, 33, '"', '#', '(', ')', '*', '.', '/', ':', '?', '@', 'A', 'Z',
-            '[', '_', '`', '{', '}', '~', 127, 128, 160, 255}) {
-            fault(sign + "table a 1;", 0, 1);
-            fault("table" + sign + "a 1;", 5, 1);
-            fault("table a 1;" + sign, 10, 1);
+        for (char sign = 0; sign < 256; sign++) {
+            boolean run = (sign >= 'a' && sign <= 'z') || (sign >= '0' && sign <= '9');
+            if (!run && " \n=<>+-,;".indexOf(sign) < 0) {
+                fault(sign + "table a 1;", 0, 1);
+                fault("table" + sign + "a 1;", 5, 1);
+                fault("table " + sign + " 1;", 6, 1);
+                fault("table a" + sign + ";", 7, 1);
+                fault("table a 1" + sign, 9, 1);
+                fault("table a 1;" + sign, 10, 1);
+                fault("table a 1;view v = project a " + sign + ";", 29, 1);
+            }
         }
+    }
+
+    /** A run ends where the tape was cut, whatever stood behind it. */
+    static void promise4ARunThatWasCut() {
+        dueOfCut("table a 11;", 9, 9, 1);
+        dueOfCut("table a 1;", 9, 9, 1);
+        String text = "table a 1;view v = distinct ab;";
+        dueOfCut(text, 4, 0, 1);
+        dueOfCut(text, 5, 5, 1);
+        dueOfCut(text, 7, 7, 1);
+        dueOfCut(text, 13, 10, 1);
+        dueOfCut(text, 26, 19, 1);
+        dueOfCut(text, 27, 27, 1);
+        dueOfCut(text, 29, 29, 1);
+        dueOfCut(text, 30, 28, 3);
+    }
+
+    private static void dueOfCut(String text, int length, int place, int kind) {
+        BagTree x = new BagTree();
+        feed(x, text);
+        x.end(length);
+        due(text + " cut to " + length, x.plan(), codeOfFault(place, kind));
     }
 
     /** Signs are single ones: two of them are two tokens. */
