@@ -192,6 +192,29 @@ public final class EdgesOfAnswersTest extends Checks {
         due("of the greatest int", x.count(2, MOST_INT, 0, 0, 0), 0);
     }
 
+    /** Each tuple that a relation tells is found by its values, be it beside wider ones or not. */
+    static void promise13EachTupleIsFound() {
+        BagTree x = planned("table a 1;table e 4;view p = project e c3,c2,c1,c0;view g = group e by c1 count;"
+                + "view j = join a e on c0=c0,c0=c1;view k = join e e on c0=c0,c1=c1,c2=c2,c3=c3;view q = project a c0+1;"
+                + "view l = join a a on c0=c0;view h = group e by c0,c1,c2 sum c3;view d = distinct a;"
+                + "view r = ring a with a on c0=c0 keep c0;view o = project e c0,c1;view f = group o by c0 most c1;");
+        change(x, 0, 5, 0, 3);
+        x.change(1, 5, 5, 6, 7, 4);
+        x.change(1, 5, 6, 7, 8, 2);
+        x.commit();
+        for (int r = 0; r < 13; r++) {
+            int columns = x.of(r, 1);
+            due("it has some", x.size(r) > 0 ? 1 : 0, 1);
+            for (int i = x.size(r) - 1; i >= 0; i--) {
+                int[] t = {99, 99, 99, 99};
+                for (int c = 0; c < columns; c++) {
+                    t[c] = x.at(r, i, c);
+                }
+                due("count(" + r + ", " + t[0] + ", ..)", x.count(r, t[0], t[1], t[2], t[3]), x.at(r, i, 4));
+            }
+        }
+    }
+
     /** "NoSuchElementException: others" */
     static void promise13Others() {
         BagTree x = oneTupleEach();

@@ -410,6 +410,29 @@ public final class EdgesOfTextTest extends Checks {
         }
     }
 
+    /** A group where a ring was has none of its rounds. */
+    static void promise4AGroupWhereARingWas() {
+        BagTree x = new BagTree();
+        for (int k = 0; k < 3; k++) {
+            plan(x, "table a 2;view v = ring a with a on c1 = c0 keep c0, c3;");
+            for (int i = 0; i < 6; i++) {
+                change(x, 0, i, i + 1, 1);
+            }
+            x.commit();
+            x.commit();
+            due("rounds", x.rounds(1), 5);
+            plan(x, "table a 2;view v = group a by c0 " + (k == 1 ? "most" : "least") + " c1;");
+            for (int i = 0; i < 6; i++) {
+                change(x, 0, i, k == 1 ? -5 : 5, 1);
+            }
+            x.commit();
+            for (int i = 0; i < 6; i++) {
+                due("fold", x.at(1, i, 1), k == 1 ? -5 : 5);
+            }
+            due("no ring", x.rounds(1), NONE);
+        }
+    }
+
     /** A relation that the new PLAN has not is none, though the one ahead had it. */
     static void promise4FewerRelations() {
         BagTree x = planned(lines(4, 4));
