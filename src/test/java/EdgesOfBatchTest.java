@@ -111,6 +111,25 @@ public final class EdgesOfBatchTest extends Checks {
         due("moved", x.moved(0), 0);
     }
 
+    /** The same: the first, one in the midst and the last of some; the others stay in order. */
+    static void promise5TheOthersStayInOrder() {
+        for (int gone = 0; gone < 6; gone++) {
+            BagTree x = planned("table a 2;table b 2;");
+            for (int k = 0; k < 6; k++) {
+                change(x, k / 3, k, -k, k + 1);
+            }
+            due("five left", x.change(gone / 3, gone, -gone, 0, 0, -gone - 1), 5);
+            for (int i = 0; i < 5; i++) {
+                int k = i < gone ? i : i + 1;
+                due("table", x.pending(i, 0), k / 3);
+                due("first column", x.pending(i, 1), k);
+                due("second column", x.pending(i, 2), -k);
+                due("how much", x.pending(i, 5), k + 1);
+            }
+            dueNoSuch("a sixth", () -> x.pending(5, 0));
+        }
+    }
+
     /** What was none any more is not below 0, though a part of it was. */
     static void promise5OfZeroIsNotBelowZero() {
         BagTree x = planned("table a 1;");
